@@ -615,10 +615,21 @@ public final class CleaningBench {
 
         /** Those of a set that are of TABLE t and have this number in the COLUMN. */
         int withNumber(int t, int c, long v, int set) {
-            int those = withCell(t, c, set);
+            int those = 0;
             for (int r = 0; r < many; r++) {
-                if (isIn(those, r) && list[r].numbers[c] != v) {
-                    those ^= 1 << r;
+                Row it = list[r];
+                if (isIn(set, r) && it.table == t && it.there[c] && it.numbers[c] == v) {
+                    those |= 1 << r;
+                }
+            }
+            return those;
+        }
+
+        int aboveZero(int c, int set) {
+            int those = 0;
+            for (int r = 0; r < many; r++) {
+                if (isIn(set, r) && list[r].numbers[c] > 0) {
+                    those |= 1 << r;
                 }
             }
             return those;
@@ -677,7 +688,7 @@ public final class CleaningBench {
         }
     }
 
-    /** COLUMNS first, second: ALIKE x, y; APART, SUM g, c; AMONG c, d; else c alone. */
+    /** COLUMNS first, second: ALIKE x, y; APART, SUM g, c; AMONG c, d (of TABLE other); else c alone. */
     private static final class Law {
         int kind;
         int table;
@@ -736,12 +747,16 @@ public final class CleaningBench {
                 case SUM:
                     findSums(it, set);
                     break;
+                case AMONG:
+                    findUnhelped(it, set);
+                    break;
                 default:
                     findSingles(it, set);
                     break;
             }
         }
 
+        // None is added twice, so there is a place for each set of ROWS.
         void addFound(int set) {
             found[manyFound] = set;
             manyFound++;
@@ -749,21 +764,29 @@ public final class CleaningBench {
 
         void findSingles(Law it, int set) {
             for (int r = 0; r < rows.many; r++) {
-                if (isIn(set, r) && rows.list[r].table == it.table && quarrelsAlone(it, rows.list[r], set)) {
+                if (isIn(set, r) && rows.list[r].table == it.table && quarrelsAlone(it, rows.list[r])) {
                     addFound(1 << r);
                 }
             }
         }
 
-        boolean quarrelsAlone(Law it, Row row, int set) {
-            if (!row.there[it.first]) {
-                return it.kind == MUST;
+        boolean quarrelsAlone(Law it, Row row) {
+            if (it.kind == MUST) {
+                return !row.there[it.first];
             }
             long v = row.numbers[it.first];
-            switch (it.kind) {
-                case SPAN: return v < it.c || v > it.d;
-                case AMONG: return rows.withNumber(it.other, it.second, v, set) == 0;
-                default: return false;
+            return row.there[it.first] && (v < it.c || v > it.d);
+        }
+
+        void findUnhelped(Law it, int set) {
+            int those = rows.withCell(it.table, it.first, set);
+            for (int r = 0; r < rows.many; r++) {
+                if (isIn(those, r)) {
+                    long v = rows.list[r].numbers[it.first];
+                    if (rows.withNumber(it.other, it.second, v, set) == 0) {
+                        addFound(1 << r);
+                    }
+                }
             }
         }
 
@@ -795,7 +818,8 @@ public final class CleaningBench {
 
         // By the highest ROW, then by the others: so the least set comes first.
         void findSums(Law it, int set) {
-            int those = countingForSum(it, set);
+            int those = rows.withCell(it.table, it.first, set) & rows.withCell(it.table, it.second, set);
+            those = rows.aboveZero(it.second, those);
             for (int high = 0; high < rows.many; high++) {
                 if (isIn(those, high)) {
                     long group = rows.list[high].numbers[it.first];
@@ -807,16 +831,6 @@ public final class CleaningBench {
                     }
                 }
             }
-        }
-
-        int countingForSum(Law it, int set) {
-            int those = rows.withCell(it.table, it.first, set) & rows.withCell(it.table, it.second, set);
-            for (int r = 0; r < rows.many; r++) {
-                if (isIn(those, r) && rows.list[r].numbers[it.second] <= 0) {
-                    those ^= 1 << r;
-                }
-            }
-            return those;
         }
 
         // Least, if all but the smallest CELL stay within most. What is still free is never below

@@ -232,6 +232,15 @@ public final class LawsTest {
         quarrelsAre("SUM one more than the longs", x, 0, 0b0111);
         Due.is("breaks of it", x.breaks(7), 0);
         Due.is("breaks of a part", x.breaks(3), CleaningBench.NONE);
+        for (int r = 0; r < 4; r++) {
+            x.put(r, 1, r == 3 ? MIN : -1);
+        }
+        quarrelsAre("SUM of none above 0", x, 0);
+        for (int r = 0; r < 4; r++) {
+            x.put(r, 0, -5);
+            x.put(r, 1, MAX / 2);
+        }
+        quarrelsAre("SUM of a group below 0", x, 0, 0b0111, 0b1011, 0b1101, 0b1110);
     }
 
     private static void among() {

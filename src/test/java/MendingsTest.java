@@ -9,6 +9,7 @@ public final class MendingsTest {
         single();
         chainOfAmong();
         amongThatHelps();
+        amongMissing();
         manyMendings();
         droppedRows();
         priceAndBest();
@@ -97,6 +98,21 @@ public final class MendingsTest {
         x.keep(2, false);
         x.law(SPAN, 1, 1, 0, 9, 9);
         mendingsAre("the last of them", x, 0b011);
+    }
+
+    private static void amongMissing() {
+        CleaningBench x = Due.longs(2);
+        x.table(1, 2, 44);
+        Due.row(x, 0, 1, 3);
+        mendingsAre("no law", x, 0);
+        x.among(0, 0, 1, 1);
+        mendingsAre("no row of the other table", x, 1);
+        int second = Due.row(x, 0, 1, 0, 4);
+        x.miss(second, 0);
+        mendingsAre("a missing cell breaks nothing", x, 1);
+        Due.row(x, 1, 1, 0);
+        x.put(second, 0, 0);
+        mendingsAre("a missing cell helps none", x, 3);
     }
 
     private static void manyMendings() {
@@ -254,6 +270,8 @@ public final class MendingsTest {
         Due.is("27: alone", x.cell(6, 1), 1);
         Due.is("27: x stays", x.cell(0, 0), 1);
         Due.is("27: nothing more", x.settle(0), 0);
+        x.trust(6, 1);
+        Due.is("27: alone with the least trust", x.settle(0), 0);
         x.put(0, 1, 8);
         x.put(2, 1, 8);
         x.trust(2, 100);

@@ -250,6 +250,9 @@ public final class QuestionsTest {
         Due.is("35: not in the second", x.against(), 0b101);
         x.tell(0, 1, 5);
         Due.is("35: not in the first", x.against(), 0b011);
+        x.force(0, false);
+        x.tell(0, 1, 6);
+        Due.is("35: it stands in the only one", x.against(), CleaningBench.NONE);
         x.law(SPAN, 0, 0, 0, 2, 2);
         Due.is("35: not in the only one", x.against(), 0b111);
         x.keep(0, false);
