@@ -758,8 +758,10 @@ public final class CleaningBench {
 
         // None is added twice, so there is a place for each set of ROWS.
         void addFound(int set) {
-            found[manyFound] = set;
-            manyFound++;
+            if (manyFound < found.length) {
+                found[manyFound] = set;
+                manyFound++;
+            }
         }
 
         void findSingles(Law it, int set) {
@@ -879,7 +881,7 @@ public final class CleaningBench {
                     boolean more = isMoreThanOne(set);
                     boolean mends = !broken[kept ^ set];
                     covers[set] = more || mends;
-                    if (mends && !more) {
+                    if (mends && !more && many < least.length) {
                         least[many] = set;
                         many++;
                     }

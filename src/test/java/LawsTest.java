@@ -6,6 +6,7 @@ public final class LawsTest {
     public static void main(String[] args) {
         lawsRefused();
         lawsFull();
+        argumentsNotLookedAt();
         amongRefused();
         force();
         most();
@@ -70,6 +71,28 @@ public final class LawsTest {
         Due.is("13: full", x.among(9, 0, 0, 0), CleaningBench.FULL);
         Due.is("12, 13: findings", x.count(4), 0);
         Due.is("12, 13: laws", x.count(1), 10);
+    }
+
+    private static void argumentsNotLookedAt() {
+        for (long any : new long[] {MIN, -1, 0, MAX}) {
+            for (int column : new int[] {Integer.MIN_VALUE, -1, 2, Integer.MAX_VALUE}) {
+                CleaningBench x = Due.longs(2);
+                Due.is("12: c, d of an ALIKE", x.law(ALIKE, 0, 0, 1, any, any), 0);
+                Due.is("12: b of a SPAN", x.law(SPAN, 0, 0, column, 1, 2), 1);
+                Due.is("12: d of an APART", x.law(APART, 0, 0, 1, 2, any), 2);
+                Due.is("12: b, c, d of a MUST", x.law(MUST, 0, 0, column, any, any), 3);
+                Due.is("12: d of a SUM", x.law(SUM, 0, 0, 1, 3, any), 4);
+                Due.row(x, 0, 1, 1, 1);
+                Due.row(x, 0, 1, 1, 2);
+                Due.row(x, 0, 1, 3, 4);
+                quarrelsAre("12: ALIKE all the same", x, 0, 3);
+                quarrelsAre("12: SPAN all the same", x, 1, 4);
+                quarrelsAre("12: APART all the same", x, 2, 3);
+                quarrelsAre("12: MUST all the same", x, 3);
+                quarrelsAre("12: SUM all the same", x, 4, 4);
+                Due.is("12: no findings", x.count(4), 0);
+            }
+        }
     }
 
     private static void amongRefused() {

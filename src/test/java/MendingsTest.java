@@ -13,6 +13,8 @@ public final class MendingsTest {
         manyMendings();
         droppedRows();
         priceAndBest();
+        bestOfThree();
+        fewerThanBefore();
         blame();
         sumRefused();
         sum();
@@ -164,6 +166,46 @@ public final class MendingsTest {
         Due.is("23: the second", x.best(), 0b101);
         x.trust(0, 51);
         Due.is("23: as dear again", x.best(), 0b010);
+    }
+
+    private static void bestOfThree() {
+        int[][] prices = {{10, 5, 7}, {5, 7, 10}, {10, 7, 5}, {7, 5, 5}, {5, 7, 5}, {100, 100, 100}};
+        int[] cheapest = {1, 0, 2, 1, 0, 0};
+        for (int i = 0; i < prices.length; i++) {
+            CleaningBench x = Due.longs(1);
+            for (int r = 0; r < 3; r++) {
+                Due.row(x, 0, prices[i][r], 7);
+            }
+            x.law(SUM, 0, 0, 0, 14, 0);
+            Due.is("23: best of three, case " + i, x.best(), 1 << cheapest[i]);
+            Due.is("22: price of three, case " + i, x.price(), prices[i][cheapest[i]]);
+            Due.is("26: one is dropped, case " + i, x.mend(), 1);
+            Due.is("26: the cheapest, case " + i, x.about(cheapest[i], 2), 0);
+        }
+    }
+
+    private static void fewerThanBefore() {
+        CleaningBench x = Due.longs(2);
+        for (int r = 0; r < 12; r++) {
+            Due.row(x, 0, 1, 1, r);
+        }
+        x.law(ALIKE, 0, 0, 1, 0, 0);
+        x.part(0);
+        x.tell(0, 1, 0);
+        Due.is("20: twelve", x.mends(), 12);
+        Due.is("33: in the one that leaves row 0", x.often(), 1);
+        x.law(SPAN, 0, 1, 0, 0, 0);
+        Due.is("35: none of fewer", x.against(), CleaningBench.NONE);
+        Due.is("33: of fewer", x.often(), 1);
+        Due.is("34: of fewer", x.sure(), 2);
+        Due.is("25: the greatest of fewer", x.sum(0, 1, true), 0);
+        Due.is("24: of fewer", x.blame(0), 0);
+        Due.is("24: of fewer", x.blame(11), 1);
+        Due.is("21: one", x.mending(1), CleaningBench.NONE);
+        Due.is("20: one", x.mends(), 1);
+        x.force(0, false);
+        x.force(1, false);
+        Due.is("23: nothing to mend any more", x.best(), 0);
     }
 
     private static void blame() {
